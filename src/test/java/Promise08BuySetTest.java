@@ -4,6 +4,7 @@ public final class Promise08BuySetTest extends Check {
         bought();
         wrong();
         limits();
+        eachCanBeFull();
         states();
         executes();
         end();
@@ -70,6 +71,17 @@ public final class Promise08BuySetTest extends Check {
         due("but not of the others", x.buySet(0, 0, 5, 21) >= 0 ? 1 : 0, 1);
         due("400 shares", x.buySet(0, 0, 3, 20) >= 0 ? 1 : 0, 1);
         due("are there", x.shares(0, 1), 400);
+    }
+
+    private static void eachCanBeFull() {
+        for (int outcome = 0; outcome < 4; outcome++) {
+            PredictionMaker x = withMarket(60, 4);
+            fill(x, 0, 0, outcome, 400);
+            String before = stateOf(x);
+            refused("outcome " + outcome, x, before, x.buySet(1, 0, 15, 1), FULL);
+            int others = 15 - (1 << outcome);
+            due("the others", x.buySet(1, 0, others, 1) >= 0 ? 1 : 0, 1);
+        }
     }
 
     private static void states() {

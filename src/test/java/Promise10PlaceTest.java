@@ -4,6 +4,7 @@ public final class Promise10PlaceTest extends Check {
         placed();
         inTurn();
         byBalance();
+        allAtOnce();
         wrong();
         states();
         full();
@@ -119,6 +120,22 @@ public final class Promise10PlaceTest extends Check {
         due("so does a buying", x.buy(0, 1, 1, 1), NOT_ENOUGH);
         x.deposit(0, 1);
         due("and is bought after a deposit", x.holding(0, 1, 1), 1);
+    }
+
+    /** Sixteen orders of fifty shares, all bought by one call. */
+    private static void allAtOnce() {
+        PredictionMaker x = new PredictionMaker();
+        x.openMarket(60, 2, 100);
+        for (int i = 0; i < 16; i++) {
+            due("order " + i, x.place(0, 0, i % 2, 50, 2880), i);
+        }
+        due("none has been bought", x.count(4), 0);
+        x.deposit(0, 500);
+        due("all are bought", x.count(4), 800);
+        due("no order is open", x.count(2), 0);
+        due("400 of one", x.shares(0, 0), 400);
+        due("400 of the other", x.shares(0, 1), 400);
+        due("for 400 coins", x.trader(0, 0), 100 * COIN);
     }
 
     private static void wrong() {

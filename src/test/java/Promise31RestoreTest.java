@@ -6,6 +6,7 @@ public final class Promise31RestoreTest extends Check {
         everything();
         goesOn();
         fewerMarkets();
+        endings();
         text();
         empty();
         end();
@@ -87,6 +88,28 @@ public final class Promise31RestoreTest extends Check {
         }
         due("no paid money", x.paid(0, 1), 0);
         due("no shares", x.shares(1, 0) + x.holding(0, 1, 0), 0);
+    }
+
+    /** How a market ended is forgotten with its end. */
+    private static void endings() {
+        PredictionMaker x = withMarket(60, 2);
+        x.openMarket(60, 2, 100);
+        x.buy(0, 0, 1, 3);
+        x.tick(100);
+        String before = stateOf(x);
+        x.save();
+        due("three coins", x.settle(0, 1), 3 * COIN);
+        x.cancelMarket(1);
+        String after = stateOf(x);
+        x.restore();
+        due("neither settled nor void", stateOf(x).equals(before) ? 1 : 0, 1);
+        due("no outcome", x.market(0, 9), -1);
+        x.settle(0, 1);
+        x.cancelMarket(1);
+        due("both once more", stateOf(x).equals(after) ? 1 : 0, 1);
+        x.save();
+        x.restore();
+        due("ended markets are saved, too", stateOf(x).equals(after) ? 1 : 0, 1);
     }
 
     private static void text() {
