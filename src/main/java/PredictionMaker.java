@@ -443,9 +443,21 @@ public final class PredictionMaker {
 
     public int trade() {
         int error = text.errorOffset();
-        int answer = error == ABSENT ? tradeAll() : SYNTAX_ERROR - error;
+        int end = error == ABSENT ? text.length : 0;
+        int next = 0;
+        int done = 0;
+        while (next < end && done < TEXT_LENGTH) {
+            next = text.readTrade(next);
+            int answer = text.selling
+                    ? sell(text.trader, text.market, text.outcome, text.number)
+                    : buy(text.trader, text.market, text.outcome, text.number);
+            if (isRefusal(answer)) {
+                break;
+            }
+            done++;
+        }
         text.length = 0;
-        return answer;
+        return error == ABSENT ? done : SYNTAX_ERROR - error;
     }
 
     public int save() {
@@ -460,24 +472,6 @@ public final class PredictionMaker {
         }
         now.copyFrom(saved);
         return now.marketCount;
-    }
-
-    /** Does the trades of a text without error, up to the first that is refused. */
-    private int tradeAll() {
-        int next = 0;
-        for (int done = 0; done < TEXT_LENGTH; done++) {
-            if (next >= text.length) {
-                return done;
-            }
-            next = text.readTrade(next);
-            int answer = text.selling
-                    ? sell(text.trader, text.market, text.outcome, text.number)
-                    : buy(text.trader, text.market, text.outcome, text.number);
-            if (isRefusal(answer)) {
-                return done;
-            }
-        }
-        return TEXT_LENGTH;
     }
 
     private boolean canOpen(int liquidity, int outcomes, int expiry) {
@@ -559,7 +553,7 @@ public final class PredictionMaker {
             return added.number;
         }
 
-        /** Lets the trader buy count shares, or sell them if it is negative, and answers the cost. */
+        /** Lets the trader buy count shares, or sell if it is negative, and answers the cost. */
         int exchange(Market market, int trader, int outcome, int count, int order) {
             int due = market.costOf(outcome, count);
             balances[trader] -= due;
@@ -711,8 +705,10 @@ public final class PredictionMaker {
             if (condition.state == VOID) {
                 return CONDITION_VOID;
             }
-            boolean lost = condition.state == SETTLED && condition.winner != market.conditionOutcome;
-            return lost ? OTHER_OUTCOME : NO_REASON;
+            if (condition.state == SETTLED && condition.winner != market.conditionOutcome) {
+                return OTHER_OUTCOME;
+            }
+            return NO_REASON;
         }
 
         int worthOf(int trader) {
