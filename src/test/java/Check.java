@@ -43,6 +43,11 @@ abstract class Check {
         isTrue(call + " changes nothing", stateOf(x).equals(before));
     }
 
+    /** Says that the call answered something else than NONE or an error code. */
+    static void answered(String call, long got) {
+        isTrue(call + " answered " + got, got < NOT_ENOUGH || got > NONE);
+    }
+
     /** A maker with one market of these outcomes that expires at 100, and 500 coins for each. */
     static PredictionMaker withMarket(int liquidity, int outcomes) {
         PredictionMaker x = new PredictionMaker();
@@ -51,6 +56,44 @@ abstract class Check {
             x.deposit(trader, 500);
         }
         return x;
+    }
+
+    /** Gives the trader exactly these units: 0 to 5000000, from a balance that is not negative. */
+    static void setBalance(PredictionMaker x, int trader, int units) {
+        if (x.trader(trader, 0) > 0) {
+            x.withdraw(trader, x.trader(trader, 0));
+        }
+        if (units % COIN != 0) {
+            x.deposit(trader, 1);
+            x.withdraw(trader, COIN - units % COIN);
+        }
+        for (int left = units / COIN; left > 0; left -= 500) {
+            x.deposit(trader, Math.min(left, 500));
+        }
+        due("the balance that the test needs", x.trader(trader, 0), units);
+    }
+
+    /** Buys until the outcomes of the market have these shares; each outcome has a buyer of its own. */
+    static void pile(PredictionMaker x, int market, int... shares) {
+        for (int outcome = 0; outcome < shares.length; outcome++) {
+            fill(x, outcome, market, outcome, shares[outcome]);
+            due("the shares that the test needs", x.shares(market, outcome), shares[outcome]);
+        }
+    }
+
+    /**
+     * Makes the trader owe these units, 1080 at most, to nobody else's harm: what was bought cheap
+     * in a market of its own and sold dear is paid back when the market becomes void.
+     */
+    static int owe(PredictionMaker x, int trader, int helper, int units) {
+        int market = x.openMarket(1, 2, 999);
+        x.buy(trader, market, 0, 1);
+        x.buy(helper, market, 0, 50);
+        x.sell(trader, market, 0, 1);
+        setBalance(x, trader, 1080 - units);
+        x.cancelMarket(market);
+        due("the debt that the test needs", x.trader(trader, 0), -units);
+        return market;
     }
 
     /** Appends the characters one by one. */

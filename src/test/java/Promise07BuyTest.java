@@ -6,7 +6,50 @@ public final class Promise07BuyTest extends Check {
         limits();
         states();
         executes();
+        justEnough();
         end();
+    }
+
+    /** "NOT_ENOUGH if the cost is greater than the balance": a unit less, the cost, a unit more. */
+    private static void justEnough() {
+        for (int count : new int[] {1, 2, 49, 50}) {
+            int cost = count * 1440 + 6 * count * count;
+            for (int off = -1; off <= 1; off++) {
+                PredictionMaker x = withMarket(60, 2);
+                setBalance(x, 2, cost + off);
+                String before = stateOf(x);
+                String call = count + " shares with " + off + " units more";
+                if (off < 0) {
+                    refused(call, x, before, x.buy(2, 0, 0, count), NOT_ENOUGH);
+                } else {
+                    due(call, x.buy(2, 0, 0, count), cost);
+                    due(call + ": what is left", x.trader(2, 0), off);
+                }
+            }
+        }
+        forNothing();
+    }
+
+    /** A cost of 0 is greater than a balance below 0, and not greater than a balance of 0. */
+    private static void forNothing() {
+        for (int balance = -1; balance <= 1; balance++) {
+            PredictionMaker x = withMarket(1, 2);
+            pile(x, 0, 20, 0);
+            if (balance < 0) {
+                owe(x, 4, 5, 1);
+            } else {
+                setBalance(x, 4, balance);
+            }
+            String before = stateOf(x);
+            if (balance < 0) {
+                refused("a free share, owing a unit", x, before, x.buy(4, 0, 1, 1), NOT_ENOUGH);
+                refused("a free set, owing a unit", x, before, x.buySet(4, 0, 2, 1), NOT_ENOUGH);
+            } else {
+                due("a free share with " + balance, x.buy(4, 0, 1, 1), 0);
+                due("a free set with " + balance, x.buySet(4, 0, 2, 1), 0);
+            }
+            due("the balance stays", x.trader(4, 0), balance);
+        }
     }
 
     private static void bought() {

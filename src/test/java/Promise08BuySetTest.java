@@ -7,7 +7,50 @@ public final class Promise08BuySetTest extends Check {
         eachCanBeFull();
         states();
         executes();
+        justEnough();
+        just400();
         end();
+    }
+
+    /** "NOT_ENOUGH if the cost is greater than the balance": that of all, not of one after the other. */
+    private static void justEnough() {
+        for (int set = 1; set < 8; set++) {
+            PredictionMaker y = withMarket(60, 3);
+            int cost = y.buySet(2, 0, set, 9);
+            for (int off = -1; off <= 1; off++) {
+                PredictionMaker x = withMarket(60, 3);
+                setBalance(x, 2, cost + off);
+                String before = stateOf(x);
+                String call = "set " + set + " with " + off + " units more";
+                if (off < 0) {
+                    refused(call, x, before, x.buySet(2, 0, set, 9), NOT_ENOUGH);
+                } else {
+                    due(call, x.buySet(2, 0, set, 9), cost);
+                    due(call + ": what is left", x.trader(2, 0), off);
+                }
+            }
+        }
+    }
+
+    /** "FULL if there would be more than 400 shares of an outcome": 399, 400 and 401 of each. */
+    private static void just400() {
+        for (int outcome = 0; outcome < 3; outcome++) {
+            for (int count : new int[] {1, 2, 3, 50}) {
+                for (int after = 399; after <= 401; after++) {
+                    PredictionMaker x = withMarket(60, 3);
+                    fill(x, 0, 0, outcome, after - count);
+                    String before = stateOf(x);
+                    String call = "to " + after + " of outcome " + outcome;
+                    int got = x.buySet(1, 0, 7, count);
+                    if (after > 400) {
+                        refused(call, x, before, got, FULL);
+                    } else {
+                        due(call, got, count * COIN);
+                        due(call + ": shares", x.shares(0, outcome), after);
+                    }
+                }
+            }
+        }
     }
 
     private static void bought() {

@@ -23,7 +23,34 @@ public final class Promise12OrderTest extends Check {
         }
         why();
         atMostShares();
+        firstThatApplies();
         end();
+    }
+
+    /**
+     * "... the first of these that applies; 0 if it can": each of the three at its edge, a unit below
+     * and a unit above, and all of them together. Money comes by selling in another market and goes
+     * by withdrawing, as neither executes the order.
+     */
+    private static void firstThatApplies() {
+        for (int shares = 398; shares <= 400; shares++) {
+            int cost = 1446 - 12 * (400 - shares);
+            for (int limit = cost - 1; limit <= cost + 1; limit++) {
+                for (int balance = cost - 1; balance <= cost + 1; balance++) {
+                    PredictionMaker x = withMarket(60, 2);
+                    x.openMarket(60, 2, 100);
+                    pile(x, 0, 400, shares);
+                    x.buy(5, 1, 0, 3);
+                    setBalance(x, 5, 0);
+                    x.place(5, 0, 1, 1, limit);
+                    x.sell(5, 1, 0, 3);
+                    x.withdraw(5, 4374 - balance);
+                    int due = limit < cost ? 1 : balance < cost ? 2 : shares == 400 ? 3 : 0;
+                    due("limit " + limit + ", balance " + balance + ", shares " + shares,
+                            x.order(0, 5), due);
+                }
+            }
+        }
     }
 
     private static void why() {

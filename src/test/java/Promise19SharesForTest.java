@@ -24,7 +24,31 @@ public final class Promise19SharesForTest extends Check {
         due("at 400 shares, just high enough", x.sharesFor(0, 0, 1440), 0);
         wrong();
         states();
+        everyPrice();
         end();
+    }
+
+    /** With n shares more the price is 1440 + 12 * n: just that price needs n, a unit more n + 1. */
+    private static void everyPrice() {
+        PredictionMaker x = withMarket(60, 2);
+        for (int number = 0; number <= 120; number++) {
+            int price = 1440 + 12 * number;
+            due(price + " units", x.sharesFor(0, 1, price), number);
+            if (number < 120) {
+                due("a unit more than " + price, x.sharesFor(0, 1, price + 1), number + 1);
+            }
+        }
+        for (int bought = 0; bought <= 120; bought += 10) {
+            PredictionMaker y = withMarket(60, 2);
+            pile(y, 0, bought, 0);
+            int price = 1440 + 12 * bought;
+            due("the price of " + bought, y.price(0, 0), price);
+            due("as high already", y.sharesFor(0, 0, price), 0);
+            due("a unit less", y.sharesFor(0, 0, price - 1), 0);
+            if (bought < 120) {
+                due("a unit more", y.sharesFor(0, 0, price + 1), 1);
+            }
+        }
     }
 
     private static void wrong() {

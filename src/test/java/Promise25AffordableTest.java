@@ -12,10 +12,46 @@ public final class Promise25AffordableTest extends Check {
         x.withdraw(0, 1);
         due("none", x.affordable(0, 0, 1), 0);
         due("asking changes nothing", x.count(4), 0);
+        everyNumber();
+        upTo400();
         limits();
         states();
         wrong();
         end();
+    }
+
+    /** "... the greatest number": for each from 0 to 50, with just its cost, and a unit less. */
+    private static void everyNumber() {
+        for (int number = 0; number <= 50; number++) {
+            PredictionMaker x = withMarket(60, 2);
+            int cost = number * 1440 + 6 * number * number;
+            setBalance(x, 3, cost);
+            due("with " + cost, x.affordable(3, 0, 1), number);
+            if (number > 0) {
+                x.withdraw(3, 1);
+                due("with a unit less than " + cost, x.affordable(3, 0, 1), number - 1);
+            }
+            isTrue("it can be bought", number < 2 || x.buy(3, 0, 1, number - 1) > 0);
+        }
+        for (int balance = -1; balance <= 1; balance++) {
+            PredictionMaker x = withMarket(1, 2);
+            pile(x, 0, 60, 0);
+            if (balance < 0) {
+                owe(x, 4, 5, 1);
+            } else {
+                setBalance(x, 4, balance);
+            }
+            due("free shares with a balance of " + balance, x.affordable(4, 0, 1), balance < 0 ? 0 : 50);
+        }
+    }
+
+    /** No more than there can be: at 349, 350, 351, 399 and 400 shares. */
+    private static void upTo400() {
+        for (int shares : new int[] {349, 350, 351, 398, 399, 400}) {
+            PredictionMaker x = withMarket(60, 2);
+            pile(x, 0, shares, 0);
+            due("at " + shares, x.affordable(5, 0, 0), Math.min(50, 400 - shares));
+        }
     }
 
     private static void limits() {
