@@ -84,7 +84,7 @@ public final class EdgesTest extends Check {
         return x;
     }
 
-    /** Sixteen open orders in market 0, or three in each but for one market with an order only. */
+    /** Sixteen open orders in so many markets by turns: of six markets, the last two have two each. */
     private static PredictionMaker ordered(int markets) {
         PredictionMaker x = sixMarkets();
         for (int i = 0; i < 16; i++) {
