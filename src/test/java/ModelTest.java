@@ -5,6 +5,7 @@ import java.util.HashMap;
 import java.util.List;
 import java.util.Map;
 import java.util.Random;
+import java.util.Set;
 
 /**
  * Runs of 512 chance calls, the same on the class and on the model, compared answer by answer;
@@ -13,11 +14,12 @@ import java.util.Random;
 public final class ModelTest {
     private static final int RUNS = 6000;
     private static final int CALLS = 512;
+    private static final long SEED = 20261119;
     private static final int[] LIQUIDITIES = {1, 2, 3, 4, 5, 6, 10, 12, 15, 20, 30, 60};
 
     /** A method, how often it is called, and a letter for what each argument is. */
     private static final String[] CALLED = {
-        "openMarket 6 lne", "openLinked 8 lnemo", "deposit 14 tc", "withdraw 5 tu", "cost 5 mok",
+        "openMarket 6 lne", "openLinked 8 lnemo", "deposit 14 td", "withdraw 5 tu", "cost 5 mok",
         "buy 30 tmoc", "buySet 10 tmsc", "sell 18 tmoc", "place 30 tmocp", "cancel 4 r",
         "order 12 rw", "waiting 6 mi", "tick 6 y", "settle 8 mo", "cancelMarket 2 m",
         "market 12 mw", "price 5 mo", "sharesFor 4 mop", "voidReason 6 mi", "shares 4 mo",
@@ -83,6 +85,8 @@ public final class ModelTest {
                 return random.nextInt(40) == 0 ? pick(-1, 6) : pick(0, few ? 1 : 5);
             case 'c':
                 return random.nextInt(25) == 0 ? pick(0, 51) : few ? pick(30, 50) : pick(1, 20);
+            case 'd':
+                return few && random.nextInt(4) == 0 ? pick(400, 500) : argument('c');
             case 'k':
                 return pick(-52, 52);
             case 'u':
@@ -193,9 +197,20 @@ public final class ModelTest {
         return same;
     }
 
+    /** Each method with each code that it answered in so many runs, as in "buy-1000000002". */
+    static Set<String> refusals(int runs) {
+        ModelTest test = new ModelTest(SEED);
+        for (int run = 0; run < runs; run++) {
+            if (!test.run()) {
+                throw new IllegalStateException("the class and the model differ");
+            }
+        }
+        return test.met.keySet();
+    }
+
     public static void main(String[] args) {
         int runs = args.length > 0 ? Integer.parseInt(args[0]) : RUNS;
-        ModelTest test = new ModelTest(20261119);
+        ModelTest test = new ModelTest(SEED);
         for (int run = 0; run < runs; run++) {
             if (!test.run()) {
                 System.out.println("in run " + run);
